@@ -1369,7 +1369,7 @@ public final class KnowsLeast {
         /** A fault at this token; from then on the end stands there, so that all reading stops. */
         private void refuse(int why) {
             if (fault == 0) {
-                fault = kind() == Tokens.BAD ? 1 : why;
+                fault = tokens.kinds[at] == Tokens.BAD ? 1 : why;
                 place = tokens.starts[at];
             }
             at = tokens.last;
@@ -1526,32 +1526,25 @@ public final class KnowsLeast {
         private void readUnit(int within) {
             int kind = kind();
             if (kind != Tokens.NOT && kind != '[') {
-                readComparison(within);
-                return;
+                readSum(within);
+                int sign = kind();
+                if (sign == '=' || sign == '<' || sign == '>') {
+                    goOn();
+                    readSum(within);
+                    formulas.add(-sign);
+                } else {
+                    refuse(CANNOT_STAND);
+                }
+            } else if (!isTooDeep(within)) {
+                goOn();
+                if (kind == Tokens.NOT) {
+                    readUnit(within + 1);
+                    formulas.add(-Tokens.NOT);
+                } else {
+                    readTruth(within + 1);
+                    take(']');
+                }
             }
-            if (isTooDeep(within)) {
-                return;
-            }
-            goOn();
-            if (kind == Tokens.NOT) {
-                readUnit(within + 1);
-                formulas.add(-Tokens.NOT);
-            } else {
-                readTruth(within + 1);
-                take(']');
-            }
-        }
-
-        private void readComparison(int within) {
-            readSum(within);
-            int sign = kind();
-            if (sign != '=' && sign != '<' && sign != '>') {
-                refuse(CANNOT_STAND);
-                return;
-            }
-            goOn();
-            readSum(within);
-            formulas.add(-sign);
         }
 
         private void readSum(int within) {

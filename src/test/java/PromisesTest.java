@@ -729,6 +729,16 @@ public final class PromisesTest {
         KnowsLeast one = Check.landed(text.append("person;").toString());
         due("34 one by one", 4, one.trial(0, 0));
         due("34 the first", 0, one.trial(0, 1));
+        // all but the true one of nine worlds are guilty: each of eight facts tells but one of them off
+        text = new StringBuilder("world 8 0 0;");
+        for (int i = 0; i < 8; i++) {
+            text.append("world ").append(i).append(" 0 0 guilty;fact : a = ").append(i).append(";");
+        }
+        KnowsLeast all = Check.landed(text.append("person;person told 0 7;").toString());
+        due("34 all eight", 8, all.trial(0, 0));
+        due("34 the first of eight", 0, all.trial(0, 1));
+        due("34 six more", 6, all.trial(1, 0));
+        due("34 the first of six", 1, all.trial(1, 1));
     }
 
     private static void brief() {
