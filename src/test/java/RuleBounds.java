@@ -1,4 +1,5 @@
 import java.math.BigInteger;
+import java.util.function.ToLongFunction;
 
 /** Bounds that the document's Terms name beyond the land's text: truths, deeds, the past, steps, draws, rows, codes. */
 final class RuleBounds {
@@ -495,7 +496,7 @@ final class RuleBounds {
         sees("an image restored", 0, k -> k.restore(0));
     }
 
-    private static void sees(String what, int part, java.util.function.ToLongFunction<KnowsLeast> does) {
+    private static void sees(String what, int part, ToLongFunction<KnowsLeast> does) {
         KnowsLeast changed = Scene.BUSY.make();
         does.applyAsLong(changed);
         boolean alike = Probe.see(Scene.BUSY.make(), part).equals(Probe.see(changed, part));

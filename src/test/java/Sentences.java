@@ -2,6 +2,7 @@ import java.io.IOException;
 import java.nio.file.Files;
 import java.nio.file.Path;
 import java.util.ArrayList;
+import java.util.Arrays;
 import java.util.List;
 import java.util.function.ToLongBiFunction;
 import java.util.function.ToLongFunction;
@@ -15,6 +16,8 @@ final class Sentences {
     static final int HIGH = Integer.MAX_VALUE;
     private static final int PROMISES = 51;
     private static final Path DOCUMENT = Path.of("../shared/DOC.md");
+    /** Stands ahead of the Terms, and is counted among them. */
+    private static final String FREE = "An object is used for at most 512 calls after it has been made";
     /** Words by which a promise names a bound: a code, NONE, from what to what. */
     private static final Pattern BOUND = Pattern.compile("-\\d+|NONE|\\d+ to \\d+|more than \\d+|\\(0: ");
     /** The same of the Terms, which name more of them. */
@@ -109,8 +112,6 @@ final class Sentences {
         return document.contains(FREE) ? terms + FREE : terms;
     }
 
-    private static final String FREE = "An object is used for at most 512 calls after it has been made";
-
     /** What a promise says behind the line that declares it. */
     private static String wordsOf(String document, int promise) {
         Matcher found = Pattern.compile("## Promise " + promise + ": [^\n]*\n+`[^`]*`: ([^\n]*)").matcher(document);
@@ -124,7 +125,7 @@ final class Sentences {
                 int at = words.indexOf(QUOTES.get(i));
                 Check.due("in the document, promise " + promise + ": '" + QUOTES.get(i) + "'", 1, at >= 0 ? 1 : 0);
                 for (; at >= 0; at = words.indexOf(QUOTES.get(i), at + 1)) {
-                    java.util.Arrays.fill(named, at, at + QUOTES.get(i).length(), true);
+                    Arrays.fill(named, at, at + QUOTES.get(i).length(), true);
                 }
             }
         }
