@@ -633,8 +633,41 @@ public final class PromisesTest {
         due("30 asked of 0", 1, alike.shown(0, 10));
         due("30 as many, but not the first", -1, alike.shown(1, 0));
         due("30 alone", 0, Check.landed("world 0 0 0;world 1 0 0;fact : a = 0;person;").shown(0, 0));
+        // 0 holds 0 1 2, all but one fact known; 1 holds 0 3, two unknown: by how many worlds 0 is the least, by facts 1.
+        // That 0 doesn't know fact 1 shows at least three worlds, that 1 knows it at most two
+        KnowsLeast apart = Check.landed("world 0 0 0;world 1 0 0;world 2 0 0;world 3 0 0;fact : a < 3;"
+                + "fact : a = 1 or a = 2;fact : a = 3;person told 0;person told 1;");
+        due("30 the least by facts is another one", 1, apart.least(3));
+        due("30 by how many worlds", 2, apart.shown(0, 0));
+        due("30 the fact asked of 0", 2, apart.shown(0, 10));
+        due("30 the fact asked of 1", 2, apart.shown(0, 11));
+        due("30 the least by facts is not shown", -1, apart.shown(1, 0));
+        manyQuestions("0 1 2 3 4 5 6 7", 0, 255);
+        manyQuestions("0 1 2 3 4 5 6", 128, 127);
+        manyQuestions("1 2 7", 255 - 134, 134);
         due("30 without worlds", 0, Check.landed(NO_WORLDS).shown(0, 0));
         due("30 without worlds, another", -1, Check.landed(NO_WORLDS).shown(1, 11));
+    }
+
+    /**
+     * Six people were told the same of eight facts, each of which tells off one of eight worlds that are not true: the
+     * first is shown to hold as many as the others by all that it doesn't know, and by all that each other one knows.
+     */
+    private static void manyQuestions(String told, int ofFirst, int ofOthers) {
+        StringBuilder text = new StringBuilder("world 8 0 0;");
+        for (int i = 0; i < 8; i++) {
+            text.append("world ").append(i).append(" 0 0;fact : a = ").append(i).append(";");
+        }
+        for (int p = 0; p < 6; p++) {
+            text.append("person told ").append(told).append(";");
+        }
+        KnowsLeast k = Check.landed(text.toString());
+        int questions = Integer.bitCount(ofFirst) + 5 * Integer.bitCount(ofOthers);
+        due("30 questions to six who were told " + told, questions, k.shown(0, 0));
+        due("30 of the first of six told " + told, ofFirst, k.shown(0, 10));
+        for (int p = 1; p < 6; p++) {
+            due("30 of " + p + " of six told " + told, ofOthers, k.shown(0, 10 + p));
+        }
     }
 
     private static void appeals() {
@@ -668,6 +701,13 @@ public final class PromisesTest {
         due("32 both want 0, the first none", -100, k.parties(0, 0, 0, 0));
         due("32 both want 0, the other tells", 20, k.parties(0, 0, 0, 1));
         due("32 nobody gets it", 2, k.parties(1, 2, 3, 2));
+        // true is 0; 0 holds one world, 1 all three, 2 two of them. The other one has 1 told fact 2 and 2 judges, unless
+        // the first then has 2 told one; at rest are both only as both have 1 told a fact that leaves it two worlds
+        KnowsLeast rest = Check.landed("world 0 0 0;world 1 0 0;world 2 0 0;fact : a = 1;fact : a = 2;fact : a = 0;"
+                + "person told 2 1;person;person told 0;");
+        due("32 the first tells too", 10, rest.parties(0, 2, 0, 0));
+        due("32 both tell 1", 11, rest.parties(0, 2, 0, 1));
+        due("32 so 2 judges", 2, rest.parties(0, 2, 0, 2));
         due("32 no first", -2, k.parties(3, 0, 0, 0));
         due("32 first below", -2, k.parties(-1, 0, 0, 0));
         due("32 no other", -2, k.parties(0, 3, 0, 0));
@@ -739,6 +779,26 @@ public final class PromisesTest {
         due("34 the first of eight", 0, all.trial(0, 1));
         due("34 six more", 6, all.trial(1, 0));
         due("34 the first of six", 1, all.trial(1, 1));
+        // the same told the other way round: each of eight facts holds in all worlds but one
+        KnowsLeast round = Check.landed(text.toString().replace(" : a", " : not a"));
+        due("34 all eight that hold", 8, round.trial(0, 0));
+        due("34 the first that holds", 0, round.trial(0, 1));
+        for (int facts = 1; facts <= 8; facts++) {
+            trialOfOne(facts, "");
+            trialOfOne(facts, "not ");
+        }
+    }
+
+    /** World 1 alone is guilty; the last fact tells it from world 0, each other one tells off one world more. */
+    private static void trialOfOne(int facts, String first) {
+        StringBuilder text = new StringBuilder("world 0 0 0;world 1 0 0 guilty;");
+        for (int i = 2; i <= facts; i++) {
+            String way = i == 2 ? first : "";
+            text.append("world ").append(i).append(" 0 0;fact : ").append(way).append("a = ").append(i).append(";");
+        }
+        KnowsLeast k = Check.landed(text.append("fact : a > 0;person;").toString());
+        due("34 all of " + facts, facts, k.trial(0, 0));
+        due("34 the first of " + facts, 0, k.trial(0, 1));
     }
 
     private static void brief() {
@@ -792,6 +852,8 @@ public final class PromisesTest {
         KnowsLeast law = lawful();
         due("37 by how many", 12, law.justice(0));
         due("37 by weight", 11, law.justice(2));
+        Check.land(law, "world 0 0 0;person;");
+        due("37 nothing is left of an earlier land", 1, law.justice(0));
     }
 
     private static void bestLaw() {
@@ -816,6 +878,14 @@ public final class PromisesTest {
         KnowsLeast known = Check.landed("world 0 0 0;world 1 0 0 guilty;world 2 0 0;fact : a = 0;fact : a = 1;"
                 + "fact : a = 0;person told 0;person told 1;");
         due("38 by facts", 3, known.bestLaw());
+        // 0 holds 0 1 | 2 3, right in 0 2 3; 1 holds 2 | 0 1 3, right in 2: by guilt 0 judges in 0 1 2, by facts in 2 3
+        KnowsLeast more = Check.landed("world 0 0 0 weight 2 guilty;world 1 0 0;world 2 0 0;world 3 0 0;"
+                + "fact : a < 2;fact : a = 2;person told 0;person told 1;");
+        int[] due = {1, 3, 1, 2};
+        for (int m = 0; m < 4; m++) {
+            due("38 justice of four worlds " + m, due[m], more.justice(m));
+        }
+        due("38 the greatest, not the last that is greater", 1, more.bestLaw());
     }
 
     private static void news() {
